@@ -3,6 +3,7 @@ final class Due {
     private int wrong = 0;
     private String part = "";
 
+    /** What the answers that follow are held against: a promise, or a sentence of the document. */
     void part(String name) {
         part = name;
     }
@@ -19,6 +20,21 @@ final class Due {
             wrong++;
             System.out.println(part + ": " + what + " does not hold");
         }
+    }
+
+    /** The text of a row, by its length and then sign by sign. */
+    void text(BitBoard x, int row, String want) {
+        is("text " + want, x.text(row), want.length());
+        signs("after text", x, want);
+    }
+
+    /** The latest text, sign by sign, with nothing before it and nothing behind it. */
+    void signs(String when, BitBoard x, String want) {
+        for (int k = 0; k < want.length(); k++) {
+            is("octet " + k + " of " + want + " " + when, x.octet(k), want.charAt(k));
+        }
+        is("octet behind " + want + " " + when, x.octet(want.length()), BitBoard.REFUSED);
+        is("octet before " + want + " " + when, x.octet(-1), BitBoard.REFUSED);
     }
 
     void end() {
