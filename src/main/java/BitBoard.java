@@ -365,7 +365,10 @@ public final class BitBoard {
         }
 
         int codeAt(int k) {
-            return k >= 0 && k < length ? signs[k] : REFUSED;
+            if (k < 0 || k >= length) {
+                return REFUSED;
+            }
+            return signs[k];
         }
 
         void write(Row row) {
